@@ -437,8 +437,7 @@ public final class GlassBowls {
 
         void addWater(int bowl, int drops) {
             poured += drops;
-            level.add(bowl, drops);
-            leak(bowl);
+            hold(bowl, level.get(bowl) + drops);
         }
 
         void takeWater(int bowl, int drops) {
@@ -448,7 +447,7 @@ public final class GlassBowls {
 
         void moveCrack(int bowl, int itsCrack) {
             crack.put(bowl, itsCrack);
-            leak(bowl);
+            hold(bowl, level.get(bowl));
         }
 
         int moveMark(int bowl, int itsMark) {
@@ -457,19 +456,19 @@ public final class GlassBowls {
             return before;
         }
 
-        private void leak(int bowl) {
-            int above = level.get(bowl) - crack.get(bowl);
-            if (above > 0) {
-                lost += above;
-                level.add(bowl, -above);
-            }
+        /** Every level that may rise above a crack is set here, so that what is lost is counted once. */
+        private void hold(int bowl, int drops) {
+            int stays = Math.min(drops, crack.get(bowl));
+            lost += drops - stays;
+            level.put(bowl, stays);
         }
 
         void fillToMarks() {
             for (int i = 0; i < size; i++) {
                 int missing = mark.get(i) - level.get(i);
                 if (missing > 0) {
-                    addWater(i, missing);
+                    poured += missing;
+                    hold(i, mark.get(i));
                 }
             }
         }
@@ -933,7 +932,11 @@ public final class GlassBowls {
             length++;
         }
 
+        /** Leaves zeros, so that a reading which goes past the end meets nothing that a note is made of. */
         void empty() {
+            for (int i = 0; i < length; i++) {
+                characters.put(i, 0);
+            }
             length = 0;
         }
 
@@ -942,10 +945,13 @@ public final class GlassBowls {
             place = 0;
             notesRead = 0;
             faultReason = NO_FAULT;
+            if (piece == null) {
+                return;
+            }
             for (int i = 0; i < MOST_CHARACTERS && place < length && faultReason == NO_FAULT; i++) {
                 faultPlace = place;
                 faultReason = reasonAgainstNext(piece);
-                if (faultReason == NO_FAULT && piece != null) {
+                if (faultReason == NO_FAULT) {
                     piece.insert(time, pitch);
                     notesRead++;
                 }
@@ -959,10 +965,10 @@ public final class GlassBowls {
             if (time > LAST_SECOND || pitch > HIGHEST_PITCH) {
                 return OUT_OF_RANGE;
             }
-            if (piece != null && piece.hasNoteAt(time)) {
+            if (piece.hasNoteAt(time)) {
                 return TIME_TAKEN;
             }
-            return piece == null || piece.isFull() ? NO_ROOM : NO_FAULT;
+            return piece.isFull() ? NO_ROOM : NO_FAULT;
         }
 
         private boolean readNote() {
@@ -976,26 +982,17 @@ public final class GlassBowls {
 
         private int readNumber() {
             int value = NONE;
-            for (int i = 0; i < MOST_DIGITS && isDigit(next()); i++) {
-                value = Math.max(value, 0) * 10 + next() - '0';
+            for (int i = 0; i < MOST_DIGITS && isWithin(characters.get(place), '0', '9'); i++) {
+                value = Math.max(value, 0) * 10 + characters.get(place) - '0';
                 place++;
             }
             return value;
         }
 
         private boolean readCharacter(int character) {
-            boolean found = next() == character;
+            boolean found = characters.get(place) == character;
             place++;
             return found;
-        }
-
-        /** 0 behind the end, which no note is made of: what stood there before a clearing does not count. */
-        private int next() {
-            return place < length ? characters.get(place) : 0;
-        }
-
-        private static boolean isDigit(int character) {
-            return isWithin(character, '0', '9');
         }
     }
 }
