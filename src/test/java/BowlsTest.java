@@ -82,10 +82,10 @@ public final class BowlsTest {
         D.due("an eleventh that is wrong", x.bowl(6001, 1), Due.INVALID);
         D.due("bowls", x.count(1), 10);
         D.due("base of the last one", x.bowlOf(9, 0), 900);
-        x.pour(3, 10);
-        x.mark(3, 20);
-        x.crack(3, 30);
-        x.remove(3);
+        x.pour(9, 10);
+        x.mark(9, 20);
+        x.crack(9, 30);
+        x.remove(9);
         D.due("a tenth again", x.bowl(7, 8), 9);
         D.due("its level is new", x.bowlOf(9, 2), 0);
         D.due("its mark is new", x.bowlOf(9, 3), 0);
@@ -224,6 +224,7 @@ public final class BowlsTest {
         D.due("2400 * 999 * 999 / 1000000 is 2395", with(0, 2400, 999).bowlOf(0, 5), -2395);
         D.due("the deepest, full", with(0, 2400, 1000).bowlOf(0, 5), -2400);
         D.due("2400 * 947 * 947 / 1000000, near the greatest int", with(6000, 2400, 947).bowlOf(0, 5), 6000 - 2152);
+        D.due("2399 * 980 * 980 / 1000000 is 2303.9996", with(6000, 2399, 980).bowlOf(0, 5), 6000 - 2303);
         D.due("2400 * 20 * 20 / 1000000 is 0", with(5, 2400, 20).bowlOf(0, 5), 5);
         D.due("2400 * 21 * 21 / 1000000 is 1", with(5, 2400, 21).bowlOf(0, 5), 4);
     }

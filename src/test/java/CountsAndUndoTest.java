@@ -137,6 +137,18 @@ public final class CountsAndUndoTest {
         x.crack(0, 10);
         x.undo();
         D.holds("crack is taken back", java.util.Arrays.equals(before, observe(x)));
+        x.pour(1, 10);
+        x.undo();
+        D.holds("pour is taken back", java.util.Arrays.equals(before, observe(x)));
+        x.spill(0, 10);
+        x.undo();
+        D.holds("spill is taken back", java.util.Arrays.equals(before, observe(x)));
+        x.transpose(0, 1, 10);
+        x.undo();
+        D.holds("transpose is taken back", java.util.Arrays.equals(before, observe(x)));
+        x.note(7, 10);
+        x.undo();
+        D.holds("note is taken back", java.util.Arrays.equals(before, observe(x)));
     }
 
     private static int[] observe(GlassBowls x) {
@@ -182,6 +194,11 @@ public final class CountsAndUndoTest {
         for (int i = 0; i < changes.length; i++) {
             D.due(changes[i], change(x, changes[i]), answers[i]);
             D.due("states after " + changes[i], x.count(7), Math.min(i + 1, 5));
+            if (i >= 4) {
+                x.undo();
+                D.due(changes[i] + " again", change(x, changes[i]), answers[i]);
+                D.due("states after " + changes[i] + " again", x.count(7), 5);
+            }
         }
         GlassBowls y = new GlassBowls();
         y.rewind();

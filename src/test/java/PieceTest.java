@@ -18,6 +18,7 @@ public final class PieceTest {
         promise18DryingComesFirst();
         promise18DryingNeedsWater();
         promise18Filling();
+        promise18FillingByOneDrop();
         promise18FillingAboveTheCrack();
         promise18ToleranceAsItIsThen();
         promise18NearestBowl();
@@ -313,6 +314,18 @@ public final class PieceTest {
         D.due("the first note begins a phrase", x.bowlOf(0, 2), 500);
     }
 
+    private static void promise18FillingByOneDrop() {
+        GlassBowls x = new GlassBowls();
+        x.bowl(1000, 1000);
+        x.pour(0, 99);
+        x.mark(0, 100);
+        x.set(3, 1);
+        x.note(1, 1000);
+        x.run(1);
+        D.due("level", x.bowlOf(0, 2), 100);
+        D.due("poured", x.count(20), 100);
+    }
+
     private static void promise18FillingAboveTheCrack() {
         GlassBowls x = new GlassBowls();
         x.bowl(1000, 1000);
@@ -381,6 +394,8 @@ public final class PieceTest {
         x.pour(0, 10);
         x.set(0, 1);
         x.note(2, 1000);
+        x.note(3, 1000);
+        x.note(4, 0);
         x.run(5);
         D.due("rewind", x.rewind(), 5);
         D.due("time", x.count(0), 0);
@@ -390,7 +405,7 @@ public final class PieceTest {
         D.due("none is the worst", x.worst(0), Due.NOT_FOUND);
         D.due("the water stays", x.bowlOf(0, 2), 5);
         D.due("the accounts stay", x.count(22), 5);
-        D.due("it is played again", x.run(2), 1);
+        D.due("they are played again", x.run(3), 2);
     }
 
     private static void promise20Worst() {
@@ -412,6 +427,13 @@ public final class PieceTest {
         }
         D.due("not so many", x.worst(5), Due.NOT_FOUND);
         D.due("worst(most)", x.worst(MOST), Due.NOT_FOUND);
+        x.drop(0);
+        D.due("note 0 is counted", x.worst(4), 3);
+        D.due("note 0 in the middle", x.worst(3), 0);
+        x.drop(1);
+        x.drop(1);
+        x.drop(2);
+        D.due("note 0 is the worst", x.worst(0), 0);
     }
 
     private static void promise3NotesKeepTheirBowl() {

@@ -80,6 +80,10 @@ public final class QuestionsTest {
         D.due("none is to come", x.firstFalse(), Due.NOT_FOUND);
         x.note(3600, 6000);
         D.due("the last second", x.firstFalse(), 5);
+        GlassBowls y = new GlassBowls();
+        y.bowl(1000, 1);
+        y.note(1, 2000);
+        D.due("note 0", y.firstFalse(), 0);
     }
 
     private static void promise22WithoutBowls() {
@@ -117,7 +121,7 @@ public final class QuestionsTest {
         x.bowl(0, 2400);
         x.pour(0, 1000);
         x.note(1, 6000);
-        D.due("above 600", x.leastTolerance(), 8400);
+        D.due("above 600, of note 0", x.leastTolerance(), 8400);
     }
 
     private static void promise24PitchAt() {

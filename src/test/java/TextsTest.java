@@ -77,15 +77,16 @@ public final class TextsTest {
     }
 
     private static void promise27Form() {
-        GlassBowls x = new GlassBowls();
         String[] bad = {"1", "1:", "1:2", ":", ";", ":2;", "1:;", "1;2:", "1;", "12345:1;", "1:12345;", "00001:1;",
             "1:00001;", " 1:2;", "1 :2;", "1: 2;", "1:2 ;", "-1:2;", "1:-2;", "1::2;", "a:2;", "1:a;", "1.5:2;",
             "/:1;", "1:/;", "::1;", "1,2;", "1:2:", "+1:2;", "3601", "0x1:2;"};
         for (String text : bad) {
+            GlassBowls x = new GlassBowls();
             faultOf(x, text, 0, 1);
             faultOf(x, "7:8;" + text, 4, 1);
             faultOf(x, "0077:0088;9:9;" + text, 14, 1);
         }
+        GlassBowls x = new GlassBowls();
         faultOf(x, "1:2; ", 4, 1);
         faultOf(x, "1:2;;", 4, 1);
         faultOf(x, "1:2;3:4;5", 8, 1);
