@@ -9,6 +9,7 @@ public final class BowlCallsEdgesTest {
         bowlReturnsItsNumber();
         removeTheFirstTheLastTheOnly();
         removeLeavesNumbersOfPlayedNotes();
+        removedBowlsDoNothingMore();
         pourUpToTheRim();
         pourWhateverTheCrackIs();
         spillAllAndOneMore();
@@ -131,6 +132,26 @@ public final class BowlCallsEdgesTest {
         }
         D.due("it was not silent", x.count(6), 0);
         D.due("it is clean still", x.count(5), 2);
+    }
+
+    /** "Takes a bowl away, with its water": it is not filled, dries not, loses nothing and does not sound. */
+    private static void removedBowlsDoNothingMore() {
+        GlassBowls x = Stories.bowlAt(1000);
+        x.bowl(2000, 1);
+        x.pour(1, 500);
+        x.mark(1, 900);
+        x.crack(1, 600);
+        x.set(0, 1);
+        x.set(3, 1);
+        x.note(5, 2000);
+        x.remove(1);
+        x.run(5);
+        D.due("poured", x.count(20), 500);
+        D.due("in the bowls", x.count(21), 0);
+        D.due("dried", x.count(22), 0);
+        D.due("lost", x.count(23), 0);
+        D.due("taken out", x.count(24), 500);
+        D.due("the other one sounds", x.noteOf(0, 4), 0);
     }
 
     /** "LIMIT_REACHED if the level and these drops are more than 1000" */

@@ -62,6 +62,14 @@ public final class BowlsAndPieceEdgesTest {
         D.due("first level of another one", x.bowlOf(1, 2), 0);
         D.due("first mark of another one", x.bowlOf(1, 3), 0);
         D.due("first crack of another one", x.bowlOf(1, 4), 1000);
+        x.pour(1, 500);
+        x.mark(1, 600);
+        x.crack(1, 700);
+        x.remove(1);
+        x.bowl(7, 1);
+        D.due("first level in the place of a removed one", x.bowlOf(1, 2), 0);
+        D.due("first mark in the place of a removed one", x.bowlOf(1, 3), 0);
+        D.due("first crack in the place of a removed one", x.bowlOf(1, 4), 1000);
     }
 
     /** "a level (0 to 1000 drops ...)" */
@@ -77,7 +85,7 @@ public final class BowlsAndPieceEdgesTest {
     private static void quotientIsRounded() {
         int[][] due = {{1, 999, 0}, {1, 1000, 1}, {4, 499, 0}, {4, 500, 1}, {4, 707, 1}, {4, 708, 2}, {4, 866, 2},
             {4, 867, 3}, {2400, 20, 0}, {2400, 21, 1}, {2400, 999, 2395}, {2400, 1000, 2400}, {2400, 946, 2147},
-            {2399, 1, 0}, {1000, 31, 0}, {1000, 32, 1}};
+            {2399, 1, 0}, {2399, 980, 2303}, {1000, 31, 0}, {1000, 32, 1}};
         for (int[] d : due) {
             D.due("quotient of " + d[0] + " and " + d[1], 3000 - Stories.bowlWith(3000, d[0], d[1]).bowlOf(0, 5), d[2]);
         }

@@ -8,6 +8,8 @@ public final class PieceCallsEdgesTest {
         noteWhenThereAreForty();
         dropTheFirstTheLastTheOnly();
         dropJoinsAndBeginsPhrases();
+        dropOfPlayedNotes();
+        droppedNotesDoNothingMore();
         transposeToTheEnds();
         transposeOnlyThose();
         transposeOneOrAll();
@@ -127,6 +129,50 @@ public final class PieceCallsEdgesTest {
         x.note(28, 4);
         x.drop(1);
         D.due("the time between is greater", x.noteOf(1, 2), 1);
+    }
+
+    /** "When a note is removed, this goes with it": and what was played of the later ones goes on with these. */
+    private static void dropOfPlayedNotes() {
+        GlassBowls x = Stories.bowlAt(1000);
+        x.bowl(2000, 1);
+        x.bowl(3000, 1);
+        int[] pitches = {1001, 2020, 3003, 1040};
+        for (int i = 0; i < 4; i++) {
+            x.note(i + 1, pitches[i]);
+        }
+        x.run(4);
+        x.drop(0);
+        int[] bowls = {1, 2, 0};
+        int[] errors = {-20, -3, -40};
+        int[] clean = {0, 1, 0};
+        for (int i = 0; i < 3; i++) {
+            D.due("bowl of the later one " + i, x.noteOf(i, 4), bowls[i]);
+            D.due("error of the later one " + i, x.noteOf(i, 5), errors[i]);
+            D.due("clean: the later one " + i, x.noteOf(i, 6), clean[i]);
+        }
+        D.due("the worst", x.worst(0), 2);
+        x.drop(2);
+        D.due("the worst then", x.worst(0), 0);
+        x.drop(1);
+        D.due("the only one", x.worst(0), 0);
+        D.due("no other", x.worst(1), Due.NOT_FOUND);
+    }
+
+    /** A removed note is neither played nor to come, also when the time is set back ahead of it. */
+    private static void droppedNotesDoNothingMore() {
+        GlassBowls x = Stories.bowlAt(1000);
+        x.note(5, 2000);
+        x.note(6, 3000);
+        x.drop(1);
+        D.due("the other one is played", x.run(10), 1);
+        x.drop(0);
+        D.due("nothing was played", x.count(4), 0);
+        D.due("nothing is the worst", x.worst(0), Due.NOT_FOUND);
+        x.rewind();
+        D.due("nothing would be false", x.firstFalse(), Due.NOT_FOUND);
+        D.due("nothing is to come", x.leastTolerance(), Due.NOT_FOUND);
+        D.due("no phrase", x.count(3), 0);
+        D.due("nothing is played", x.run(10), 0);
     }
 
     /** "NOT_POSSIBLE if one of them would be out of 0 to 6000." */

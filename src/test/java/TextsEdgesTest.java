@@ -107,6 +107,12 @@ public final class TextsEdgesTest {
             D.due("nothing of it is left", x.fault(1), NONE);
             D.due("one note", x.enter(), 1);
         }
+        GlassBowls y = with("1:2;3:4;");
+        y.clearText();
+        y.type('5');
+        D.due("a first digit does not bring back the rest", y.fault(1), 1);
+        Due.write(y, ":6;");
+        D.due("nor does a whole note", y.enter(), 1);
     }
 
     /** "a time (1 to 4 digits), ":", a pitch (1 to 4 digits)" */
